@@ -450,7 +450,7 @@ public final class FairGround {
     }
 
     private boolean isClear(Spot spot) {
-        return spot.isOnGreen() && !spot.covers(0, green.gateRow) && green.isAllFree(spot)
+        return spot.isOnGreen() && !spot.covers(0, green.gateRow) && green.isOpen(spot, true)
                 && green.at(spot.doorX(), spot.doorY()) == FREE;
     }
 
@@ -523,7 +523,7 @@ public final class FairGround {
 
     private boolean couldGrowTo(Ride ride, Spot spot) {
         return spot.isOnGreen() && spot.overlaps(ride.spot) && !spot.covers(0, green.gateRow)
-                && green.isAllOpen(spot) && green.at(spot.doorX(), spot.doorY()) != CLOSED;
+                && green.isOpen(spot, false) && green.at(spot.doorX(), spot.doorY()) != CLOSED;
     }
 
     private int movedBy(Ride ride, Spot spot) {
@@ -580,7 +580,8 @@ public final class FairGround {
         }
 
         boolean isOnGreen() {
-            // Least and most first: x + wide of any int might wrap around. The DOOR needs a row more.
+            // x and y alone come first, since x + wide of any int might wrap around.
+            // The DOOR needs one row more.
             return x >= 0 && x < COLUMNS && y >= 0 && y < ROWS
                     && x + wide <= COLUMNS && y + high < ROWS;
         }
@@ -689,21 +690,12 @@ public final class FairGround {
             }
         }
 
-        boolean isAllFree(Spot spot) {
+        /** Whether all CELLS of a spot are open and, where that is wanted, not covered. */
+        boolean isOpen(Spot spot, boolean uncovered) {
             for (int y = spot.y; y < spot.y + spot.high; y++) {
                 for (int x = spot.x; x < spot.x + spot.wide; x++) {
-                    if (at(x, y) != FREE) {
-                        return false;
-                    }
-                }
-            }
-            return true;
-        }
-
-        boolean isAllOpen(Spot spot) {
-            for (int y = spot.y; y < spot.y + spot.high; y++) {
-                for (int x = spot.x; x < spot.x + spot.wide; x++) {
-                    if (at(x, y) < FREE) {
+                    int content = at(x, y);
+                    if (content < FREE || uncovered && content != FREE) {
                         return false;
                     }
                 }
@@ -797,9 +789,10 @@ public final class FairGround {
         }
     }
 
-    /** A text that has been read: for each line its verdict and its E, operands ahead of operators. */
+    /** A text that has been read: of each line the verdict and the E, operands ahead of operators. */
     private static final class Law {
-        // A PART within four others has at most three operands waiting on each of five levels.
+        // A left side each of "and", of < or =, and of + or - may wait on each of the five levels
+        // for the innermost PART.
         private static final int MOST_WAITING = 3 * DEEPEST_PART + 1;
 
         private final int[] code = new int[TAPE_LENGTH];
@@ -877,7 +870,10 @@ public final class FairGround {
         }
     }
 
-    /** Cuts a tape into tokens, then reads these as a text; the methods below read() answer false at a fault. */
+    /**
+     * Cuts a tape into tokens, then reads these as a text. What read() calls answers false at a fault,
+     * and all of it stops there: the first token from the left that is wrong counts.
+     */
     private static final class Reader {
         // One longer than the tape: the end is a token, too.
         private final int[] kinds = new int[TAPE_LENGTH + 1];
@@ -1092,6 +1088,7 @@ public final class FairGround {
                 current++;
                 return readTests(law, depth + 1) && skip(CLOSING);
             }
+            // kind() has looked at current: a NUMBER or a FACT is no end of the row.
             law.add(kind, values[current]);
             current++;
             return true;

@@ -259,6 +259,15 @@ public final class GreenTest {
         CHECK.due("the next", fair.look(1, 1), 4);
         CHECK.due("the least", fair.look(2, 1), 6);
 
+        FairGround equal = new FairGround();
+        for (int n = 0; n < 3; n++) {
+            equal.ride(1, 1, 0, 0, 50);
+        }
+        CHECK.due("layAll of one rank", equal.layAll(), 0);
+        for (int n = 0; n < 3; n++) {
+            CHECK.due("by numbers", equal.look(n, 1), 2 * (n + 1));
+        }
+
         FairGround full = new FairGround();
         for (int n = 0; n < 10; n++) {
             full.ride(4, 4, 0, 0, n == 4 ? 0 : 5);

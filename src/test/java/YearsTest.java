@@ -153,12 +153,13 @@ public final class YearsTest {
             "1 < 2 and 3 = 3", "(1 < 2) = 1", "(2 < 1) = 0", "(5 and 7) = 1", "(5 and 0) = 0",
             "(0 and 5) + 1", "(7) = 7", "((((7)))) = 7", "9999 - 9998", "0007 = 7",
             "1 and 1 and 1", "0 - 1 < 0", "(1 and 2) + (3 and 4) = 2", "1+(1+(1+(1+1)))=5",
-            "1 and 1<1+(1 and 1<1+(1 and 1<1+(1 and 1<1+(1 and 1<1+1))))"};
+            "1 and 1=0+(1 and 1=0+(1 and 1=0+(1 and 1=0+(1 and 1=1+0))))"};
         for (String e : hold) {
             CHECK.due("holds: " + e, lapses("lapse when " + e + ";"), 1);
         }
         String[] fail = {"1 - 1", "3 < 3", "3 < 2", "2 = 3", "1 and 0", "0 and 1", "1 and 1 and 0",
-            "0 and 1 and 1", "1 < 2 and 2 < 2", "sick - 1", "missed + held - 3"};
+            "0 and 1 and 1", "1 < 2 and 2 < 2", "sick - 1", "missed + held - 3",
+            "1 and 1=0+(1 and 1=0+(1 and 1=0+(1 and 1=0+(1 and 1=1+1))))"};
         for (String e : fail) {
             CHECK.due("does not hold: " + e, lapses("lapse when " + e + ";"), 0);
         }
