@@ -729,9 +729,13 @@ public final class FairGround {
         }
 
         private void reach(int x, int y) {
-            if (at(x, y) == FREE && reached[COLUMNS * y + x] == 0 && queued < CELLS) {
-                reached[COLUMNS * y + x] = 1;
-                queue[queued] = COLUMNS * y + x;
+            if (!hasCell(x, y) || queued >= CELLS) {
+                return;
+            }
+            int cell = COLUMNS * y + x;
+            if (cells[cell] == FREE && reached[cell] == 0) {
+                reached[cell] = 1;
+                queue[queued] = cell;
                 queued++;
             }
         }

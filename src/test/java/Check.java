@@ -3,11 +3,27 @@ import java.util.NoSuchElementException;
 /** Counts and prints the answers that are not the ones due. */
 final class Check {
     private int wrong = 0;
+    private String sentence = "";
+
+    /** The document's words that the next answers are held against; they head what is printed. */
+    void sentence(String words) {
+        sentence = "[" + words + "] ";
+    }
+
+    private void tell(String words) {
+        wrong++;
+        System.out.println(sentence + words);
+    }
 
     void due(String call, long got, long want) {
         if (got != want) {
-            wrong++;
-            System.out.println(call + " answered " + got + ", due is " + want);
+            tell(call + " answered " + got + ", due is " + want);
+        }
+    }
+
+    void same(String call, String got, String want) {
+        if (!got.equals(want)) {
+            tell(call + ":\n  got " + got + "\n  due " + want);
         }
     }
 
@@ -23,8 +39,7 @@ final class Check {
         String call = "look(" + ride + ", " + what + ")";
         try {
             int got = fair.look(ride, what);
-            wrong++;
-            System.out.println(call + " answered " + got + ", due is NoSuchElementException");
+            tell(call + " answered " + got + ", due is NoSuchElementException");
         } catch (NoSuchElementException due) {
             // as the document asks
         }
