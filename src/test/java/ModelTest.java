@@ -6,6 +6,9 @@ public final class ModelTest {
     private static final Check CHECK = new Check();
     private static final int[] FAR = {-1, -2, 10, 11, 12, 13, 100, 1001, Integer.MIN_VALUE,
         Integer.MIN_VALUE + 1, Integer.MAX_VALUE, Integer.MAX_VALUE - 3};
+    // An object is used for 512 calls at most: 194 to look at all, 28 for the last text.
+    private static final int MOST_CALLS = 512 - 194 - 28;
+    private static final int MOST_FED = 27 * 24;
 
     private final Random random;
     private final FairGround fair = new FairGround();
@@ -15,7 +18,7 @@ public final class ModelTest {
     // some fill the green with small rides, others leave hardly a place.
     private final int mostSize;
     private final int closing;
-    private int call = 0;
+    private int calls = 0;
 
     private ModelTest(int seed) {
         this.seed = seed;
@@ -25,7 +28,7 @@ public final class ModelTest {
     }
 
     public static void main(String[] args) {
-        int runs = args.length > 0 ? Integer.parseInt(args[0]) : 150;
+        int runs = args.length > 0 ? Integer.parseInt(args[0]) : 300;
         for (int seed = 1; seed <= runs; seed++) {
             new ModelTest(seed).run();
         }
@@ -33,7 +36,8 @@ public final class ModelTest {
     }
 
     private void due(String name, long got, long want) {
-        CHECK.due("seed " + seed + ", call " + call + ": " + name, got, want);
+        calls++;
+        CHECK.due("seed " + seed + ", call " + calls + ": " + name, got, want);
     }
 
     private void run() {
@@ -41,7 +45,7 @@ public final class ModelTest {
         for (int n = 0; n < first; n++) {
             addRide();
         }
-        for (call = first; call < 480; call++) {
+        while (calls < MOST_CALLS) {
             try {
                 oneCall(random.nextInt(30));
             } catch (RuntimeException thrown) {
@@ -50,6 +54,7 @@ public final class ModelTest {
             }
         }
         lookAtAll();
+        CHECK.yes("seed " + seed + ": 512 calls at most", calls <= 512);
     }
 
     private int below(int bound) {
@@ -125,7 +130,7 @@ public final class ModelTest {
         if (random.nextInt(3) == 0) {
             signs = spoiled(signs);
         }
-        for (int at = 0; at < signs.length(); at += 24) {
+        for (int at = 0; at < signs.length() && at < MOST_FED; at += 24) {
             long a = Check.eight(signs, at);
             long b = Check.eight(signs, at + 8);
             long c = Check.eight(signs, at + 16);

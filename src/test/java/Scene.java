@@ -67,6 +67,20 @@ final class Scene {
         return fair;
     }
 
+    static void closeAllBut(FairGround fair, int[][] open) {
+        for (int y = 0; y < 10; y++) {
+            for (int x = 0; x < 12; x++) {
+                boolean kept = false;
+                for (int[] cell : open) {
+                    kept |= cell[0] == x && cell[1] == y;
+                }
+                if (!kept) {
+                    fair.close(x, y, true);
+                }
+            }
+        }
+    }
+
     /**
      * What a fair answers to questions, then to calls that bring to light what no question tells: who
      * is sick, where the gate is, what the text says. 330 calls; the fair is used up then.
