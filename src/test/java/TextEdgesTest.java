@@ -13,10 +13,14 @@ public final class TextEdgesTest {
         textTakesTheTape();
         textEmpty();
         textInPlaceOfTheOneThereWas();
+        textSaysNothingOfOlderOnes();
         textOf600Signs();
+        textOf600SignsAgainAndAgain();
+        textOf600Tokens();
         textSixteenLines();
         textPartsWithinOneAnother();
         textWords();
+        textWordsByEachLetter();
         textNumbers();
         textBlanks();
         textSignsBehindAPart();
@@ -170,6 +174,32 @@ public final class TextEdgesTest {
         CHECK.due("lapsed", fair.end(), 1);
     }
 
+    /** Whether a right lapses by the last of these texts. */
+    private static int lapsedBy(String... texts) {
+        FairGround fair = new FairGround();
+        fair.ride(1, 1, 0, 0, 0);
+        fair.lay(0, 5, 5, false);
+        fair.end();
+        for (String text : texts) {
+            CHECK.due("text of " + text, Check.text(fair, text), 0);
+        }
+        return fair.end();
+    }
+
+    private static void textSaysNothingOfOlderOnes() {
+        CHECK.sentence("14 text: in place of the one there was, and of all before it");
+        String[] olds = {"keep when 0; lapse when 1;", "lapse when 0+1+1+1;", "lapse when 1;".repeat(16),
+            "lapse when 1+(1+(1+(1+1)));"};
+        String[] news = {"", "lapse when 0;", "keep when 0 - 5 + 5;", "keep when 1 < 1; lapse when 0;"};
+        for (String old : olds) {
+            for (String text : news) {
+                CHECK.due(old + " then " + text, lapsedBy(old, text), 0);
+                CHECK.due(old + " and another, then " + text, lapsedBy(old, "keep when 1;", text), 0);
+                CHECK.due(old + " twice, then " + text, lapsedBy(old, old, text), 0);
+            }
+        }
+    }
+
     private static void textOf600Signs() {
         CHECK.sentence("TEXT: as long as the TAPE: 600 signs");
         String sum = "keep when 1" + "+1".repeat(294);
@@ -187,6 +217,23 @@ public final class TextEdgesTest {
         CHECK.due("0", fair.end(), 0);
         CHECK.due("text", Check.text(fair, "lapse when 1" + "+1".repeat(291) + "-291;"), 0);
         CHECK.due("1", fair.end(), 1);
+    }
+
+    private static void textOf600SignsAgainAndAgain() {
+        CHECK.sentence("TEXT: each is read like the first");
+        String sum = "lapse when 1" + "-0".repeat(293) + ";";
+        String none = "lapse when 1" + "-0".repeat(292) + "-1;";
+        CHECK.due("six times", lapsedBy(sum, sum, sum, sum, sum, sum), 1);
+        CHECK.due("six times", lapsedBy(sum, sum, sum, sum, sum, none), 0);
+    }
+
+    private static void textOf600Tokens() {
+        CHECK.sentence("TEXT: as many tokens as the TAPE has signs");
+        for (String token : new String[] {"(", ")", "+", ";", "*", "="}) {
+            bad(token.repeat(600), 1, 0);
+        }
+        bad("keep when " + "(".repeat(590), 5, 15);
+        bad("keep when 1;" + ";".repeat(588), 1, 12);
     }
 
     private static void textSixteenLines() {
@@ -249,6 +296,28 @@ public final class TextEdgesTest {
         bad("keep when hel;", 1, 10);
         bad("x".repeat(600), 1, 0);
         bad("keep when " + "held".repeat(147), 1, 10);
+    }
+
+    private static void textWordsByEachLetter() {
+        CHECK.sentence("TEXT: keep, lapse, when, and, missed, held, sick, rank, area, year, and no other WORD");
+        String[][] aheadWordBehind = {{"", "keep", " when 1;"}, {"", "lapse", " when 1;"}, {"keep ", "when", " 1;"},
+            {"keep when 1 ", "and", " 1;"}, {"keep when ", "missed", ";"}, {"keep when ", "held", ";"},
+            {"keep when ", "sick", ";"}, {"keep when ", "rank", ";"}, {"keep when ", "area", ";"},
+            {"keep when ", "year", ";"}};
+        for (String[] w : aheadWordBehind) {
+            String word = w[1];
+            good(w[0] + word + w[2], 1);
+            for (int n = 0; n < word.length(); n++) {
+                bad(w[0] + word.substring(0, n) + "z" + word.substring(n + 1) + w[2], 1, w[0].length());
+            }
+            bad(w[0] + word.substring(1) + w[2], 1, w[0].length());
+            bad(w[0] + word.substring(0, word.length() - 1) + w[2], 1, w[0].length());
+            bad(w[0] + word + "s" + w[2], 1, w[0].length());
+        }
+        for (String other : new String[] {"or", "not", "power", "noise", "width", "height", "ride", "lit", "rate"}) {
+            bad("keep when " + other + ";", 1, 10);
+            bad("keep when 1 " + other + " 1;", 1, 12);
+        }
     }
 
     private static void textNumbers() {

@@ -285,7 +285,11 @@ public final class YearsEdgesTest {
         CHECK.sentence("the first line whose E is not 0: below 0, too");
         CHECK.due("0 - 1", lapsed("0 - 1", false), 1);
         CHECK.due("0000", lapsed("0000", false), 0);
-        CHECK.due("9999 + 9999 - 9999 = 9999", lapsed("9999 + 9999 - 9999 = 9999", false), 1);
+        CHECK.sentence("NUMBERS: up to four digits");
+        CHECK.due("9999 = 9998 + 1", lapsed("9999 = 9998 + 1", false), 1);
+        CHECK.due("9999 < 9999 + 1", lapsed("9999 < 9999 + 1", false), 1);
+        CHECK.due("0 - 9999 - 9999 < 0 - 9999 - 9998", lapsed("0 - 9999 - 9999 < 0 - 9999 - 9998", false), 1);
+        CHECK.due("0010 = 10", lapsed("0010 = 10", false), 1);
     }
 
     private static void endNobodyLiesNobodyIsSick() {
