@@ -285,6 +285,15 @@ public final class YearsEdgesTest {
         CHECK.sentence("the first line whose E is not 0: below 0, too");
         CHECK.due("0 - 1", lapsed("0 - 1", false), 1);
         CHECK.due("0000", lapsed("0000", false), 0);
+        CHECK.sentence("PART: ( E ), 5 within one another, each with an and, a < or =, a + or - that waits for it");
+        String deepest = "7 - (1 and 1=0+(1 and 1=0+(1 and 1=0+(1 and 1=1+%d)))) = 6";
+        CHECK.due("deepest, 1", lapsed(String.format(deepest, 0), false), 1);
+        CHECK.due("deepest, 0", lapsed(String.format(deepest, 1), false), 0);
+        String within = "1 and 1=0+(1 and 1=0+(1 and 1=0+(1 and 1=0+(1 and 1=1+%d))))";
+        CHECK.due("all waiting, 1", lapsed(String.format(within, 0), false), 1);
+        CHECK.due("all waiting, 0", lapsed(String.format(within, 1), false), 0);
+        CHECK.due("9 - (2) - (3 - (1)) = 5", lapsed("9 - (2) - (3 - (1)) = 5", false), 1);
+        CHECK.due("9 - ((2) < (3)) = 8", lapsed("9 - ((2) < (3)) = 8", false), 1);
         CHECK.sentence("NUMBERS: up to four digits");
         CHECK.due("9999 = 9998 + 1", lapsed("9999 = 9998 + 1", false), 1);
         CHECK.due("9999 < 9999 + 1", lapsed("9999 < 9999 + 1", false), 1);
